@@ -27,15 +27,12 @@ public final class ParrotSquawks {
     private static final long DIGEST_START = 1069L;
     private static final long DIGEST_FACTOR = 31L;
 
-    private final Tape tape = new Tape();
-    private final Tokens tokens = new Tokens(tape);
+    private final Grammar grammar = new Grammar();
+    private final Tape tape = grammar.tokens.tape;
     private final Parrot parrot = new Parrot();
     // Lives through what would be, so that the parrot itself stays as it is.
     private final Parrot trial = new Parrot();
     private Plan plan = new Plan();
-    // Filled by the next teach(), so that a tape with an error leaves the plan alone.
-    private Plan spare = new Plan();
-    private final Grammar grammar = new Grammar(tokens, spare);
     private int errorPlace = -1;
 
     public ParrotSquawks() {
@@ -64,14 +61,11 @@ public final class ParrotSquawks {
     }
 
     public int teach() {
-        tokens.split();
-        int error = grammar.readInto(spare);
+        int error = grammar.readPlan();
         errorPlace = grammar.errorPlace;
         tape.size = 0;
         if (error == NO_ERROR) {
-            Plan former = plan;
-            plan = spare;
-            spare = former;
+            plan = grammar.exchange(plan);
             parrot.beginAnew();
         }
         return error;
@@ -406,7 +400,7 @@ public final class ParrotSquawks {
      * NONE where no token begins, or where it is too long or one too many.
      */
     private static final class Tokens {
-        private final Tape tape;
+        final Tape tape = new Tape();
         private final Token[] kinds = new Token[MOST_TOKENS + 1];
         private final int[] starts = new int[MOST_TOKENS + 1];
         private final int[] ends = new int[MOST_TOKENS + 1];
@@ -416,8 +410,7 @@ public final class ParrotSquawks {
         int start;
         int end;
 
-        Tokens(Tape tape) {
-            this.tape = tape;
+        Tokens() {
             for (int i = 0; i <= MOST_TOKENS; i++) {
                 kinds[i] = Token.NONE;
             }
@@ -659,20 +652,23 @@ public final class ParrotSquawks {
      * looked at; where it answers false, the token that is looked at then is that of error 1.
      */
     private static final class Grammar {
-        private final Tokens tokens;
-        private Plan plan;
+        final Tokens tokens = new Tokens();
+        int errorPlace;
+        // Not the one that is lived by, so that a tape with an error leaves that alone.
+        private Plan plan = new Plan();
         private int depth;
         private int error;
         private int insultRead;
-        int errorPlace;
 
-        Grammar(Tokens tokens, Plan plan) {
-            this.tokens = tokens;
-            this.plan = plan;
+        // Gives the plan that was read for one that is not lived by any more.
+        Plan exchange(Plan former) {
+            Plan read = plan;
+            plan = former;
+            return read;
         }
 
-        int readInto(Plan target) {
-            plan = target;
+        int readPlan() {
+            tokens.split();
             plan.clear();
             depth = 0;
             error = NO_ERROR;

@@ -73,6 +73,13 @@ public final class LanguageTest {
         dueError("hear of;", 1, 5);
         dueError("hear 3;", 1, 5);
         dueError("mock 3;", 1, 5);
+        dueError("hear ;", 1, 5);
+        dueError("mock ;", 1, 5);
+        dueError("hear when day = 1;", 1, 5);
+        dueError("echo count of;", 1, 13);
+        dueError("echo count of + 1;", 1, 14);
+        dueError("echo 1 when knows;", 1, 17);
+        dueError("echo 1 when knows and day = 1;", 1, 18);
         dueError("mock not;", 1, 5);
         dueError("insult a when day = 1;", 1, 9);
         dueError("echo a;", 1, 5);

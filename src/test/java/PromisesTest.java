@@ -115,12 +115,14 @@ public final class PromisesTest {
     private static void promise4Teach() {
         ParrotSquawks parrot = Check.taught("insult ab; insult c; hear abc;");
         parrot.passDays(3);
+        Check.due("longestRepeat() by the first plan", parrot.longestRepeat(), 6);
         Check.due("teach() of another plan", Check.teach(parrot, "insult xyz; mock xyz;"), 0);
         Check.due("insults()", parrot.insults(), 1);
         Check.due("lettersOf(0)", parrot.lettersOf(0), 3);
         Check.due("length()", parrot.length(), 0);
         Check.due("day()", parrot.day(), 0);
         Check.due("ordersCarriedOut()", parrot.ordersCarriedOut(), 0);
+        Check.due("kinds()", parrot.kinds(), 0);
         Check.due("longestRepeat()", parrot.longestRepeat(), 0);
         Check.due("the tape is empty: trim(0)", parrot.trim(0), 0);
         Check.dueNoArgument("the tape is empty: trim(1)", () -> parrot.trim(1));
@@ -396,17 +398,33 @@ public final class PromisesTest {
         Check.due("banana: banana, ana, anana", parrot.stepsTo(3), 3);
         Check.dueNoPlace("stepsTo(4) of four", () -> parrot.stepsTo(4));
         dueWildNoPlace("stepsTo", parrot::stepsTo);
-        ParrotSquawks one = Check.taught("insult ab; insult b; insult a;");
+        ParrotSquawks one = Check.taught("insult ab; insult b; insult a; insult abd;");
         one.hear(1);
-        Check.due("ab in a", one.stepsTo(0), 1);
-        Check.hear(one, "cb");
-        // Sorted: acb, b, cb; the search for b meets b, acb; that for ab meets b, acb, too.
-        Check.due("b in acb", one.stepsTo(1), 2);
-        Check.due("a in acb", one.stepsTo(2), 2);
-        one.forget(1);
-        // Sorted: b, cb.
-        Check.due("b in cb", one.stepsTo(1), 2);
-        Check.due("ab in cb", one.stepsTo(0), 2);
+        Check.due("ab in a: a is ahead", one.stepsTo(0), 1);
+        Check.hear(one, "b");
+        // Sorted: ab, b.
+        Check.due("ab in ab: b, ab", one.stepsTo(0), 2);
+        Check.due("b in ab: b, ab", one.stepsTo(1), 2);
+        Check.hear(one, "c");
+        // Sorted: abc, bc, c.
+        Check.due("abd in abc: bc, abc", one.stepsTo(3), 2);
+        Check.due("b in abc: bc, abc", one.stepsTo(1), 2);
+        Check.hear(one, "ab");
+        // Sorted: ab, abcab, b, bcab, cab; where the squawk is at its end, it comes ahead.
+        Check.due("abd in abcab: b, abcab", one.stepsTo(3), 2);
+        Check.due("ab in abcab: b, abcab, ab", one.stepsTo(0), 3);
+        Check.due("a in abcab: b, abcab, ab", one.stepsTo(2), 3);
+        Check.due("b in abcab: b, abcab", one.stepsTo(1), 2);
+        ParrotSquawks ends = Check.taught("insult bbb; insult ba; insult bba;");
+        Check.hear(ends, "abb");
+        // Sorted: abb, b, bb.
+        Check.due("bbb in abb: b, bb", ends.stepsTo(0), 2);
+        Check.due("ba in abb: b, bb", ends.stepsTo(1), 2);
+        Check.hear(ends, "b");
+        // Sorted: abbb, b, bb, bbb.
+        Check.due("bbb in abbb: bb, bbb", ends.stepsTo(0), 2);
+        Check.due("ba in abbb: bb, b", ends.stepsTo(1), 2);
+        Check.due("bba in abbb: bb, bbb", ends.stepsTo(2), 2);
     }
 
     private static void promise28MostSaid() {
@@ -513,6 +531,10 @@ public final class PromisesTest {
         parrot.passDays(2);
         Check.due("repeatAfter(1) from the day 2", parrot.repeatAfter(1), 2);
         Check.dueLetters("behind that", parrot, "aa");
+        ParrotSquawks idle = Check.heard("ab");
+        Check.due("repeatAfter(1) without orders", idle.repeatAfter(1), 0);
+        Check.hear(idle, "ab");
+        Check.due("repeatAfter(1) without orders", idle.repeatAfter(1), 2);
     }
 
     private static void promise35DaysUntilKnown() {
@@ -538,6 +560,7 @@ public final class PromisesTest {
         Check.due("bestLetter() of nothing", Check.heard("").bestLetter(), 1);
         Check.due("bestLetter() of c", Check.heard("c").bestLetter(), 3);
         Check.due("bestLetter() of cb", Check.heard("cb").bestLetter(), 2);
+        Check.due("bestLetter() of z", Check.heard("z").bestLetter(), 26);
         Check.due("bestLetter() of banana", Check.heard("banana").bestLetter(), 14);
         Check.due("bestLetter() of abcab", Check.heard("abcab").bestLetter(), 3);
         // No letter makes zzz longer.
