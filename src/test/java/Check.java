@@ -6,14 +6,24 @@ final class Check {
     }
 
     private static int wrong = 0;
+    private static String sentence = "";
 
     private Check() {
     }
 
+    /** What follows looks whether these words of the document hold. */
+    static void sentence(String words) {
+        sentence = "(" + words + ") ";
+    }
+
+    private static void tellWrong(String what) {
+        wrong++;
+        System.out.println(sentence + what);
+    }
+
     static void due(String call, long got, long want) {
         if (got != want) {
-            wrong++;
-            System.out.println(call + " answered " + got + ", due is " + want);
+            tellWrong(call + " answered " + got + ", due is " + want);
         }
     }
 
@@ -23,8 +33,7 @@ final class Check {
 
     static void dueMean(String call, double got, double want) {
         if (got != want) {
-            wrong++;
-            System.out.println(call + " answered " + got + ", due is " + want);
+            tellWrong(call + " answered " + got + ", due is " + want);
         }
     }
 
@@ -32,12 +41,10 @@ final class Check {
     static void dueThrow(String name, Class<? extends RuntimeException> want, Call call) {
         try {
             long got = call.answer();
-            wrong++;
-            System.out.println(name + " answered " + got + ", due is " + want.getSimpleName());
+            tellWrong(name + " answered " + got + ", due is " + want.getSimpleName());
         } catch (RuntimeException e) {
             if (e.getClass() != want) {
-                wrong++;
-                System.out.println(name + " threw " + e + ", due is " + want.getSimpleName());
+                tellWrong(name + " threw " + e + ", due is " + want.getSimpleName());
             }
         }
     }
@@ -73,6 +80,16 @@ final class Check {
         return parrot.teach();
     }
 
+    static void dueError(String plan, int error, int at) {
+        ParrotSquawks parrot = new ParrotSquawks();
+        due("teach() of " + plan, teach(parrot, plan), error);
+        due("errorAt() of " + plan, parrot.errorAt(), at);
+    }
+
+    static void dueGood(String plan) {
+        dueError(plan, 0, -1);
+    }
+
     /** A parrot with this plan, which must be without an error. */
     static ParrotSquawks taught(String plan) {
         ParrotSquawks parrot = new ParrotSquawks();
@@ -99,9 +116,18 @@ final class Check {
             got.append((char) ('a' + parrot.letterAt(place) - 1));
         }
         if (!got.toString().equals(want)) {
-            wrong++;
-            System.out.println(when + " it remembers " + got + ", due is " + want);
+            tellWrong(when + " it remembers " + got + ", due is " + want);
         }
+    }
+
+    /** The call must throw an exception of this very class, and change nothing. */
+    static void dueRefused(ParrotSquawks parrot, String name,
+            Class<? extends RuntimeException> want, Call call) {
+        long before = parrot.digest();
+        int errorBefore = parrot.errorAt();
+        dueThrow(name, want, call);
+        due("digest() behind the refused " + name, parrot.digest(), before);
+        due("errorAt() behind the refused " + name, parrot.errorAt(), errorBefore);
     }
 
     static void end() {

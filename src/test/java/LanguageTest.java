@@ -23,156 +23,147 @@ public final class LanguageTest {
         Check.end();
     }
 
-    private static void dueError(String plan, int error, int at) {
-        ParrotSquawks parrot = new ParrotSquawks();
-        Check.due("teach() of " + plan, Check.teach(parrot, plan), error);
-        Check.due("errorAt() of " + plan, parrot.errorAt(), at);
-    }
-
-    private static void dueGood(String plan) {
-        dueError(plan, 0, -1);
-    }
-
     private static void tokens() {
-        dueGood("");
-        dueGood(" \n \n");
-        dueGood("\n insult\na\n;\n\n");
-        dueGood("echo 12when day<=3and 4>=day;");
-        dueGood("insult abcdefghij;");
-        dueError("insult abcdefghijk;", 1, 7);
-        dueGood("echo 999999;echo 000007;");
-        dueError("echo 1000000;", 1, 5);
-        dueError("echo 0000007;", 1, 5);
-        dueError("insult a;\t", 1, 9);
-        dueError("insult a;\r\n", 1, 9);
-        dueError("insult A;", 1, 7);
-        dueError("insult aB;", 1, 8);
-        dueError("insult a\u00ff;", 1, 8);
-        dueError("insult a;\0", 1, 9);
-        dueError("echo 1 when day < = 3;", 1, 18);
-        dueError("echo 1 when day => 3;", 1, 17);
-        dueError("echo 1 when day == 3;", 1, 17);
-        dueError("echo 1 when day <> 3;", 1, 17);
-        dueError("echo 1whenday < 3;", 1, 6);
-        dueError("insulta;", 1, 0);
-        dueError("Insult a;", 1, 0);
+        Check.dueGood("");
+        Check.dueGood(" \n \n");
+        Check.dueGood("\n insult\na\n;\n\n");
+        Check.dueGood("echo 12when day<=3and 4>=day;");
+        Check.dueGood("insult abcdefghij;");
+        Check.dueError("insult abcdefghijk;", 1, 7);
+        Check.dueGood("echo 999999;echo 000007;");
+        Check.dueError("echo 1000000;", 1, 5);
+        Check.dueError("echo 0000007;", 1, 5);
+        Check.dueError("insult a;\t", 1, 9);
+        Check.dueError("insult a;\r\n", 1, 9);
+        Check.dueError("insult A;", 1, 7);
+        Check.dueError("insult aB;", 1, 8);
+        Check.dueError("insult a\u00ff;", 1, 8);
+        Check.dueError("insult a;\0", 1, 9);
+        Check.dueError("echo 1 when day < = 3;", 1, 18);
+        Check.dueError("echo 1 when day => 3;", 1, 17);
+        Check.dueError("echo 1 when day == 3;", 1, 17);
+        Check.dueError("echo 1 when day <> 3;", 1, 17);
+        Check.dueError("echo 1whenday < 3;", 1, 6);
+        Check.dueError("insulta;", 1, 0);
+        Check.dueError("Insult a;", 1, 0);
     }
 
     private static void grammar() {
-        dueError("insult", 1, 6);
-        dueError("insult a", 1, 8);
-        dueError("insult a  ", 1, 10);
-        dueError("insult ;", 1, 7);
-        dueError("insult a b;", 1, 9);
-        dueError("insult hear;", 1, 7);
-        dueError("insult 7;", 1, 7);
-        dueError(";", 1, 0);
-        dueError("a;", 1, 0);
-        dueError("7;", 1, 0);
-        dueError("insult a;;", 1, 9);
-        dueError("hear of;", 1, 5);
-        dueError("hear 3;", 1, 5);
-        dueError("mock 3;", 1, 5);
-        dueError("hear ;", 1, 5);
-        dueError("mock ;", 1, 5);
-        dueError("hear when day = 1;", 1, 5);
-        dueError("echo count of;", 1, 13);
-        dueError("echo count of + 1;", 1, 14);
-        dueError("echo 1 when knows;", 1, 17);
-        dueError("echo 1 when knows and day = 1;", 1, 18);
-        dueError("mock not;", 1, 5);
-        dueError("insult a when day = 1;", 1, 9);
-        dueError("echo a;", 1, 5);
-        dueError("echo ;", 1, 5);
-        dueError("echo [1];", 1, 5);
-        dueError("echo 1 2;", 1, 7);
-        dueError("echo 1 +;", 1, 8);
-        dueError("echo +1;", 1, 5);
-        dueError("echo (1;", 1, 7);
-        dueError("echo 1);", 1, 6);
-        dueError("echo min(1);", 1, 10);
-        dueError("echo min 1, 2;", 1, 9);
-        dueError("echo max(1, 2, 3);", 1, 13);
-        dueError("echo count a;", 1, 11);
-        dueError("echo count of 3;", 1, 14);
-        dueError("echo 1 when ;", 1, 12);
-        dueError("echo 1 when day;", 1, 15);
-        dueError("echo 1 when (day < 1);", 1, 17);
-        dueError("echo 1 when [day];", 1, 16);
-        dueError("echo 1 when day < 1 < 2;", 1, 20);
-        dueError("echo 1 when [day < 1;", 1, 20);
-        dueError("echo 1 when not;", 1, 15);
-        dueError("echo 1 when knows 1;", 1, 18);
-        dueError("echo 1 when day < not 1;", 1, 18);
-        dueError("echo 1 when day < 1 or;", 1, 22);
-        dueError("echo 1 when and day < 1;", 1, 12);
-        dueError("echo 1 when day < 1 when day < 2;", 1, 20);
-        dueGood("echo 1 when not [(day) < 1 and not day < 2] or -1 < - - 1;");
+        Check.dueError("insult", 1, 6);
+        Check.dueError("insult a", 1, 8);
+        Check.dueError("insult a  ", 1, 10);
+        Check.dueError("insult ;", 1, 7);
+        Check.dueError("insult a b;", 1, 9);
+        Check.dueError("insult hear;", 1, 7);
+        Check.dueError("insult 7;", 1, 7);
+        Check.dueError(";", 1, 0);
+        Check.dueError("a;", 1, 0);
+        Check.dueError("7;", 1, 0);
+        Check.dueError("insult a;;", 1, 9);
+        Check.dueError("hear of;", 1, 5);
+        Check.dueError("hear 3;", 1, 5);
+        Check.dueError("mock 3;", 1, 5);
+        Check.dueError("hear ;", 1, 5);
+        Check.dueError("mock ;", 1, 5);
+        Check.dueError("hear when day = 1;", 1, 5);
+        Check.dueError("echo count of;", 1, 13);
+        Check.dueError("echo count of + 1;", 1, 14);
+        Check.dueError("echo 1 when knows;", 1, 17);
+        Check.dueError("echo 1 when knows and day = 1;", 1, 18);
+        Check.dueError("mock not;", 1, 5);
+        Check.dueError("insult a when day = 1;", 1, 9);
+        Check.dueError("echo a;", 1, 5);
+        Check.dueError("echo ;", 1, 5);
+        Check.dueError("echo [1];", 1, 5);
+        Check.dueError("echo 1 2;", 1, 7);
+        Check.dueError("echo 1 +;", 1, 8);
+        Check.dueError("echo +1;", 1, 5);
+        Check.dueError("echo (1;", 1, 7);
+        Check.dueError("echo 1);", 1, 6);
+        Check.dueError("echo min(1);", 1, 10);
+        Check.dueError("echo min 1, 2;", 1, 9);
+        Check.dueError("echo max(1, 2, 3);", 1, 13);
+        Check.dueError("echo count a;", 1, 11);
+        Check.dueError("echo count of 3;", 1, 14);
+        Check.dueError("echo 1 when ;", 1, 12);
+        Check.dueError("echo 1 when day;", 1, 15);
+        Check.dueError("echo 1 when (day < 1);", 1, 17);
+        Check.dueError("echo 1 when [day];", 1, 16);
+        Check.dueError("echo 1 when day < 1 < 2;", 1, 20);
+        Check.dueError("echo 1 when [day < 1;", 1, 20);
+        Check.dueError("echo 1 when not;", 1, 15);
+        Check.dueError("echo 1 when knows 1;", 1, 18);
+        Check.dueError("echo 1 when day < not 1;", 1, 18);
+        Check.dueError("echo 1 when day < 1 or;", 1, 22);
+        Check.dueError("echo 1 when and day < 1;", 1, 12);
+        Check.dueError("echo 1 when day < 1 when day < 2;", 1, 20);
+        Check.dueGood("echo 1 when not [(day) < 1 and not day < 2] or -1 < - - 1;");
     }
 
     private static void depth() {
-        dueGood("echo " + "(".repeat(8) + "1" + ")".repeat(8) + ";");
-        dueError("echo " + "(".repeat(9) + "1" + ")".repeat(9) + ";", 1, 13);
-        dueGood("echo " + "-".repeat(8) + "1;");
-        dueError("echo " + "-".repeat(9) + "1;", 1, 13);
-        dueGood("echo 1 when " + "not ".repeat(8) + "day<1;");
-        dueError("echo 1 when " + "not ".repeat(9) + "day<1;", 1, 44);
-        dueGood("echo 1 when " + "[".repeat(8) + "day<1" + "]".repeat(8) + ";");
-        dueError("echo 1 when " + "[".repeat(9) + "day<1" + "]".repeat(9) + ";", 1, 20);
-        dueGood("echo " + "min(".repeat(8) + "1" + ",1)".repeat(8) + ";");
-        dueError("echo " + "min(".repeat(9) + "1" + ",1)".repeat(9) + ";", 1, 40);
-        dueGood("echo 1 when not [ not [ -(-(1)) < 2 ] ];");
-        dueError("echo 1 when not [ not [ -(-(-(1))) < 2 ] ];", 1, 28);
+        Check.dueGood("echo " + "(".repeat(8) + "1" + ")".repeat(8) + ";");
+        Check.dueError("echo " + "(".repeat(9) + "1" + ")".repeat(9) + ";", 1, 13);
+        Check.dueGood("echo " + "-".repeat(8) + "1;");
+        Check.dueError("echo " + "-".repeat(9) + "1;", 1, 13);
+        Check.dueGood("echo 1 when " + "not ".repeat(8) + "day<1;");
+        Check.dueError("echo 1 when " + "not ".repeat(9) + "day<1;", 1, 44);
+        Check.dueGood("echo 1 when " + "[".repeat(8) + "day<1" + "]".repeat(8) + ";");
+        Check.dueError("echo 1 when " + "[".repeat(9) + "day<1" + "]".repeat(9) + ";", 1, 20);
+        Check.dueGood("echo " + "min(".repeat(8) + "1" + ",1)".repeat(8) + ";");
+        Check.dueError("echo " + "min(".repeat(9) + "1" + ",1)".repeat(9) + ";", 1, 40);
+        Check.dueGood("echo 1 when not [ not [ -(-(1)) < 2 ] ];");
+        Check.dueError("echo 1 when not [ not [ -(-(-(1))) < 2 ] ];", 1, 28);
         // What is closed does not count any more; a - between two products never does.
-        dueGood("echo " + "(1)+-1-".repeat(12) + "((((((((1))))))));");
-        dueGood("echo 1 when " + "not day<-1 and [day<1] or ".repeat(9) + "[[[[[[[[day<1]]]]]]]];");
-        dueGood("echo 1" + "-1".repeat(30) + ";");
-        dueError("echo " + "(".repeat(7) + "1-(-1)" + ")".repeat(7) + ";", 1, 15);
+        Check.dueGood("echo " + "(1)+-1-".repeat(12) + "((((((((1))))))));");
+        Check.dueGood("echo 1 when " + "not day<-1 and [day<1] or ".repeat(9)
+                + "[[[[[[[[day<1]]]]]]]];");
+        Check.dueGood("echo 1" + "-1".repeat(30) + ";");
+        Check.dueError("echo " + "(".repeat(7) + "1-(-1)" + ")".repeat(7) + ";", 1, 15);
     }
 
     private static void fourHundredTokens() {
         // Each line has 25 tokens: echo, twelve ones, eleven times a +, and the semicolon.
         String line = "echo 1" + "+1".repeat(11) + ";";
-        dueGood(line.repeat(16) + "\n ");
-        dueError(line.repeat(16) + " insult a;", 1, line.length() * 16 + 1);
-        dueError(line.repeat(16) + "!", 1, line.length() * 16);
+        Check.dueGood(line.repeat(16) + "\n ");
+        Check.dueError(line.repeat(16) + " insult a;", 1, line.length() * 16 + 1);
+        Check.dueError(line.repeat(16) + "!", 1, line.length() * 16);
         String many = "echo 1" + "+1".repeat(199);
-        dueError(many + ";", 1, many.length());
-        dueError(many, 1, many.length());
-        dueError("echo 1" + "+1".repeat(198) + ";;", 1, 403);
-        dueError("echo 1" + "+1".repeat(198) + "; hear", 1, 408);
+        Check.dueError(many + ";", 1, many.length());
+        Check.dueError(many, 1, many.length());
+        Check.dueError("echo 1" + "+1".repeat(198) + ";;", 1, 403);
+        Check.dueError("echo 1" + "+1".repeat(198) + "; hear", 1, 408);
     }
 
     private static void errors2To5() {
-        dueError("insult ab;insult b; insult ab;", 2, 27);
-        dueError("mock a;insult a;", 3, 5);
-        dueError("insult ab; mock a;", 3, 16);
-        dueError("insult ab; mock abc;", 3, 16);
-        dueError("insult a; mock a1;", 3, 15);
-        dueError("insult a; echo count of b;", 3, 24);
-        dueError("insult a; echo place of b;", 3, 24);
-        dueError("insult a; echo 1 when knows b;", 3, 28);
-        dueError("insult b; hear a; mock a;", 3, 23);
-        dueGood(INSULTS_8);
-        dueError(INSULTS_8 + "insult i;", 4, 79);
-        dueError(INSULTS_8 + "insult a;", 2, 79);
-        dueError(INSULTS_8 + "insult i1;", 4, 79);
-        dueGood("hear a;".repeat(16) + "insult a;");
-        dueError("hear a;".repeat(16) + "insult a; mock a;", 4, 122);
-        dueError("hear a;".repeat(16) + "hear a1;", 4, 112);
-        dueError("forget 1;".repeat(17), 4, 144);
-        dueError("insult a1;", 5, 7);
-        dueError("hear abc2d;", 5, 5);
-        dueError("insult a1; insult a1;", 5, 7);
+        Check.dueError("insult ab;insult b; insult ab;", 2, 27);
+        Check.dueError("mock a;insult a;", 3, 5);
+        Check.dueError("insult ab; mock a;", 3, 16);
+        Check.dueError("insult ab; mock abc;", 3, 16);
+        Check.dueError("insult a; mock a1;", 3, 15);
+        Check.dueError("insult a; echo count of b;", 3, 24);
+        Check.dueError("insult a; echo place of b;", 3, 24);
+        Check.dueError("insult a; echo 1 when knows b;", 3, 28);
+        Check.dueError("insult b; hear a; mock a;", 3, 23);
+        Check.dueGood(INSULTS_8);
+        Check.dueError(INSULTS_8 + "insult i;", 4, 79);
+        Check.dueError(INSULTS_8 + "insult a;", 2, 79);
+        Check.dueError(INSULTS_8 + "insult i1;", 4, 79);
+        Check.dueGood("hear a;".repeat(16) + "insult a;");
+        Check.dueError("hear a;".repeat(16) + "insult a; mock a;", 4, 122);
+        Check.dueError("hear a;".repeat(16) + "hear a1;", 4, 112);
+        Check.dueError("forget 1;".repeat(17), 4, 144);
+        Check.dueError("insult a1;", 5, 7);
+        Check.dueError("hear abc2d;", 5, 5);
+        Check.dueError("insult a1; insult a1;", 5, 7);
     }
 
     private static void firstErrorCounts() {
-        dueError("hear a1; mock b;", 5, 5);
-        dueError("mock b; hear a1;", 3, 5);
-        dueError("echo count of x + count of y;", 3, 14);
-        dueError("hear a1; mock b", 1, 15);
-        dueError("hear a1; mock b; ?", 1, 17);
-        dueError("hear a;".repeat(17) + "insult ;", 1, 126);
+        Check.dueError("hear a1; mock b;", 5, 5);
+        Check.dueError("mock b; hear a1;", 3, 5);
+        Check.dueError("echo count of x + count of y;", 3, 14);
+        Check.dueError("hear a1; mock b", 1, 15);
+        Check.dueError("hear a1; mock b; ?", 1, 17);
+        Check.dueError("hear a;".repeat(17) + "insult ;", 1, 126);
     }
 
     /** What a sum answers, as a test finds it; the letters are banana in the day 3. */
