@@ -73,18 +73,15 @@ public final class BoundaryCallsTest {
     private static void noSuchPlaceOfTwo() {
         Check.sentence("Throws IndexOutOfBoundsException if there is no such place: of two");
         for (int size : new int[] {1, 2, 40}) {
-            ParrotSquawks parrot = Check.heard(FULL.substring(0, size));
-            int last = size - 1;
-            dueIndex(parrot, "shared with 0", size, place -> parrot.shared(place, 0));
-            dueIndex(parrot, "shared with the last", size, place -> parrot.shared(place, last));
-            dueIndex(parrot, "shared of 0", size, place -> parrot.shared(0, place));
-            dueIndex(parrot, "shared of the last", size, place -> parrot.shared(last, place));
-            dueIndex(parrot, "isAhead with 0", size, place -> ahead(parrot, place, 0));
-            dueIndex(parrot, "isAhead with the last", size, place -> ahead(parrot, place, last));
-            dueIndex(parrot, "isAhead of 0", size, place -> ahead(parrot, 0, place));
-            dueIndex(parrot, "isAhead of the last", size, place -> ahead(parrot, last, place));
-            Check.dueNoPlace("shared of two wrong", () -> parrot.shared(-1, size));
-            Check.dueNoPlace("isAhead of two wrong", () -> ahead(parrot, size, -1));
+            for (int one : new int[] {0, size - 1}) {
+                ParrotSquawks parrot = Check.heard(FULL.substring(0, size));
+                dueIndex(parrot, "shared with " + one, size, place -> parrot.shared(place, one));
+                dueIndex(parrot, "shared of " + one, size, place -> parrot.shared(one, place));
+                dueIndex(parrot, "isAhead with " + one, size, place -> ahead(parrot, place, one));
+                dueIndex(parrot, "isAhead of " + one, size, place -> ahead(parrot, one, place));
+                Check.dueNoPlace("shared of two wrong", () -> parrot.shared(-1, size));
+                Check.dueNoPlace("isAhead of two wrong", () -> ahead(parrot, size, -1));
+            }
         }
         ParrotSquawks none = new ParrotSquawks();
         Check.dueNoPlace("shared(0, 0) of none", () -> none.shared(0, 0));
@@ -297,6 +294,7 @@ public final class BoundaryCallsTest {
         ParrotSquawks parrot = Check.taught(EIGHT + "hear abc;".repeat(16));
         parrot.passDays(30);
         parrot.hear(26);
+        parrot.digest();
         Check.due("teach() of " + plan, Check.teach(parrot, plan), 0);
         ParrotSquawks fresh = Check.taught(plan);
         Check.due("insults()", parrot.insults(), insults);
@@ -311,12 +309,41 @@ public final class BoundaryCallsTest {
     private static void allBeginsAnew() {
         Check.sentence("Reads the tape as a plan, in the place of all that was told before; all "
                 + "begins anew, in the day 0, and nothing is remembered");
-        dueAnew("", 0);
-        dueAnew(" ", 0);
-        dueAnew("insult ab;", 1);
-        dueAnew("hear a;", 0);
-        dueAnew("insult ab; mock ab; echo 1; forget 1 when day = 0;", 1);
-        dueAnew(EIGHT + "hear abc;".repeat(16), 8);
+        String[] plans = {"", " ", "insult ab;", "hear a;",
+            "insult abcdefghij; mock abcdefghij; hear klmnopqrst; forget 3 when day = 1;",
+            "insult ab; mock ab; echo 1; forget 1 when day = 0;", EIGHT + "mock h;".repeat(16)};
+        int[] insults = {0, 0, 1, 0, 1, 1, 8};
+        for (int i = 0; i < plans.length; i++) {
+            dueAnew(plans[i], insults[i]);
+        }
+        dueOneBehindTheOther(plans);
+        dueManyLongPlans();
+    }
+
+    private static void dueOneBehindTheOther(String[] plans) {
+        for (String between : new String[] {"", "insult abcde; hear abcde; echo 1 when [(", "?"}) {
+            ParrotSquawks parrot = new ParrotSquawks();
+            for (int i = 0; i < plans.length * 3; i++) {
+                String plan = plans[i * 3 % plans.length];
+                Check.teach(parrot, between);
+                Check.due("teach() of " + plan, Check.teach(parrot, plan), 0);
+                parrot.passDays(2);
+                ParrotSquawks fresh = Check.taught(plan);
+                fresh.passDays(2);
+                Check.due("digest() with " + plan, parrot.digest(), fresh.digest());
+            }
+        }
+    }
+
+    /** As many steps as a plan can have, time and again. */
+    private static void dueManyLongPlans() {
+        ParrotSquawks parrot = new ParrotSquawks();
+        for (int i = 0; i < 10; i++) {
+            String plan = "hear abc; forget " + "1+".repeat(194) + (i % 3) + " - 194;";
+            Check.due("teach() of a long plan", Check.teach(parrot, plan), 0);
+            Check.due("a day", parrot.passDays(1), i % 3 == 0 ? 1 : 2);
+            Check.due("length()", parrot.length(), 3 - i % 3);
+        }
     }
 
     private static void allStaysWithAnError() {

@@ -12,8 +12,10 @@ public final class BoundaryErrorsTest {
         orNothing();
         endOfTheTape();
         firstWrongToken();
+        tokensThatAreMissing();
         byteWithWhichNoTokenBegins();
         tooLongWordOrNumber();
+        depthIs0AtTheBeginning();
         depthAtMost8();
         depthBetweenBrackets();
         depthBehindMinusAndNot();
@@ -110,6 +112,56 @@ public final class BoundaryErrorsTest {
         Check.dueError("hear a; b; ?", 1, 8);
     }
 
+    private static void tokensThatAreMissing() {
+        Check.sentence("Error 1: the first token with which the tokens so far are not the "
+                + "beginning of a plan: where another one is missing");
+        Check.dueError("insult ;", 1, 7);
+        Check.dueError("hear ;", 1, 5);
+        Check.dueError("mock ;", 1, 5);
+        Check.dueError("echo ;", 1, 5);
+        Check.dueError("forget when 1<2;", 1, 7);
+        Check.dueError("hear when 1<2;", 1, 5);
+        Check.dueError(";", 1, 0);
+        Check.dueError("hear a;;", 1, 7);
+        for (String sign : new String[] {"+", "-", "*", "/"}) {
+            Check.dueError("echo 1" + sign + ";", 1, 7);
+            Check.dueError("echo 1" + sign + "+2;", 1, 7);
+            Check.dueError("echo 1" + sign + "*2;", 1, 7);
+            Check.dueError("echo 1" + sign + "/2;", 1, 7);
+            Check.dueError("echo 1" + sign + "*2*2;", 1, 7);
+            Check.dueGood("echo 1" + sign + "-2;");
+        }
+        Check.dueError("echo +1;", 1, 5);
+        Check.dueError("echo *1;", 1, 5);
+        Check.dueError("echo ();", 1, 6);
+        Check.dueError("echo (1;", 1, 7);
+        Check.dueError("echo 1);", 1, 6);
+        Check.dueError("echo min 1,2);", 1, 9);
+        Check.dueError("echo min(,2);", 1, 9);
+        Check.dueError("echo min(1);", 1, 10);
+        Check.dueError("echo min(1,);", 1, 11);
+        Check.dueError("echo min(1,2;", 1, 12);
+        Check.dueError("echo min(1,2,3);", 1, 12);
+        Check.dueError("echo count a;", 1, 11);
+        Check.dueError("echo place of;", 1, 13);
+        Check.dueError("echo 1 when ;", 1, 12);
+        Check.dueError("echo 1 when 2;", 1, 13);
+        Check.dueError("echo 1 when 2<;", 1, 14);
+        Check.dueError("echo 1 when <2;", 1, 12);
+        Check.dueError("echo 1 when 1<2<3;", 1, 15);
+        Check.dueError("echo 1 when not;", 1, 15);
+        Check.dueError("echo 1 when knows;", 1, 17);
+        Check.dueError("echo 1 when 1<2 and;", 1, 19);
+        Check.dueError("echo 1 when or 1<2;", 1, 12);
+        Check.dueError("echo 1 when 1<2 or or 1<2;", 1, 19);
+        Check.dueError("echo 1 when 1<2 and and 1<2;", 1, 20);
+        Check.dueError("echo 1 when [1<2;", 1, 16);
+        Check.dueError("echo 1 when [];", 1, 13);
+        Check.dueError("echo 1 when 1<2];", 1, 15);
+        Check.dueError("echo 1 when (1<2);", 1, 14);
+        Check.dueError("echo 1 when [1]<2;", 1, 14);
+    }
+
     private static void byteWithWhichNoTokenBegins() {
         Check.sentence("Error 1: This includes a byte with which no token begins");
         char[] signs = {0, 9, 11, 13, 31, 33, 39, '.', ':', '?', '@', 'A', 'Z', '\\', '^', '`',
@@ -141,6 +193,20 @@ public final class BoundaryErrorsTest {
     }
 
     // ---- the depth
+
+    private static void depthIs0AtTheBeginning() {
+        Check.sentence("Depth. It is 0 at the beginning");
+        for (int left = 0; left <= 9; left++) {
+            ParrotSquawks parrot = new ParrotSquawks();
+            // What is left open by a plan with an error does not count for the next one.
+            Check.due("teach()", Check.teach(parrot, "echo " + "(".repeat(left)), 1);
+            Check.due("eight deep", Check.teach(parrot, "echo ((((((((1))))))));"), 0);
+            Check.due("teach()", Check.teach(parrot, "echo 1 when " + "[".repeat(left)), 1);
+            Check.due("eight deep", Check.teach(parrot, "echo --------1;"), 0);
+            Check.due("nine deep", Check.teach(parrot, "echo ---------1;"), 1);
+            Check.due("errorAt()", parrot.errorAt(), 13);
+        }
+    }
 
     private static void depthAtMost8() {
         Check.sentence("Depth. It may be at most 8; Error 1 includes the (, [, - or not behind "
@@ -453,5 +519,13 @@ public final class BoundaryErrorsTest {
         Check.dueLetters("behind the three insults", parrot, "zababc");
         parrot.passDays(1);
         Check.dueLetters("behind the orders", parrot, "zababcxb");
+        for (int insult = 0; insult < 8; insult++) {
+            char name = (char) ('a' + insult);
+            ParrotSquawks mocking = Check.taught(insults(8) + "mock " + name + ";");
+            mocking.mock(insult);
+            mocking.passDays(1);
+            Check.dueLetters("the insult " + insult + ", by hand and by an order:", mocking,
+                    "" + name + name);
+        }
     }
 }

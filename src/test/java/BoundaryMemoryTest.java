@@ -23,6 +23,7 @@ public final class BoundaryMemoryTest {
         testOrNone();
         theDayIsOneGreater();
         valuesOfTests();
+        bothSidesOfAndAndOr();
         testsAsTheyComeToTheirTurns();
         carriedOutInAll();
         Check.end();
@@ -51,13 +52,11 @@ public final class BoundaryMemoryTest {
             Check.due("hear(26) with " + before, parrot.hear(26), Math.min(40, before + 1));
             Check.dueLetters("behind it", parrot, tail(FULL.substring(0, before) + "z"));
         }
-        ParrotSquawks parrot = new ParrotSquawks();
-        String all = "";
-        for (int i = 0; i < 100; i++) {
-            int letter = 1 + i * 7 % 26;
-            all += (char) (96 + letter);
-            Check.due("hear()", parrot.hear(letter), Math.min(40, i + 1));
-            Check.dueLetters("behind it", parrot, tail(all));
+        String all = FULL + FULL + FULL;
+        for (int i = 0; i <= all.length(); i++) {
+            ParrotSquawks parrot = Check.heard(all.substring(0, i));
+            Check.due("length()", parrot.length(), Math.min(40, i));
+            Check.dueLetters("behind " + i + " letters", parrot, tail(all.substring(0, i)));
         }
     }
 
@@ -284,6 +283,39 @@ public final class BoundaryMemoryTest {
         ParrotSquawks other = Check.taught("insult ab; hear z when not knows ab;");
         Check.hear(other, letters);
         Check.due("not knows ab with " + letters, other.passDays(1), 1 - known);
+    }
+
+    private static void dueTest(String test, boolean holds) {
+        ParrotSquawks parrot = Check.taught("hear a when " + test + ";");
+        Check.due(test, parrot.passDays(1), holds ? 1 : 0);
+    }
+
+    private static void bothSidesOfAndAndOr() {
+        Check.sentence("Both sides of and and or are reckoned; and binds more than or, not more "
+                + "than and");
+        String[] sides = {"1<0", "0<1"};
+        for (int i = 0; i < 2; i++) {
+            dueTest("not " + sides[i], i == 0);
+            for (int k = 0; k < 2; k++) {
+                boolean left = i == 1;
+                boolean right = k == 1;
+                dueTest(sides[i] + " and " + sides[k], left && right);
+                dueTest(sides[i] + " or " + sides[k], left || right);
+                dueTest("not " + sides[i] + " and " + sides[k], !left && right);
+                dueTest("not " + sides[i] + " or " + sides[k], !left || right);
+                dueTest("not [" + sides[i] + " and " + sides[k] + "]", !(left && right));
+                dueTest("not [" + sides[i] + " or " + sides[k] + "]", !(left || right));
+                for (int m = 0; m < 2; m++) {
+                    boolean third = m == 1;
+                    String back = " and " + sides[k] + " or " + sides[m];
+                    dueTest(sides[i] + back, left && right || third);
+                    String turned = " or " + sides[k] + " and " + sides[m];
+                    dueTest(sides[i] + turned, left || right && third);
+                    dueTest("[" + sides[i] + " or " + sides[k] + "] and " + sides[m],
+                            (left || right) && third);
+                }
+            }
+        }
     }
 
     private static void testsAsTheyComeToTheirTurns() {

@@ -8,6 +8,8 @@ public final class BoundarySquawksTest {
     }
 
     public static void main(String[] args) {
+        whateverIsAskedFirst();
+        whatIsHeardAndForgottenSinceThen();
         squawksToTheEnd();
         smallerLetterWhereTheyDiffer();
         atItsEnd();
@@ -30,6 +32,62 @@ public final class BoundarySquawksTest {
         insultThatStandsAtTheMostPlaces();
         meanOfShared();
         Check.end();
+    }
+
+    private static void whateverIsAskedFirst() {
+        Check.sentence("Of banana, whatever is asked first");
+        Check.due("kinds()", Check.heard("banana").kinds(), 15);
+        Check.due("rankOf(0)", Check.heard("banana").rankOf(0), 3);
+        Check.due("placeAt(0)", Check.heard("banana").placeAt(0), 5);
+        Check.due("sharedAt(2)", Check.heard("banana").sharedAt(2), 3);
+        Check.due("shared(1, 3)", Check.heard("banana").shared(1, 3), 3);
+        Check.due("isAhead(5, 0)", Check.heard("banana").isAhead(5, 0), true);
+        Check.due("isAhead(0, 5)", Check.heard("banana").isAhead(0, 5), false);
+        Check.due("longestRepeat()", Check.heard("banana").longestRepeat(), 3);
+        Check.due("repeatPlace()", Check.heard("banana").repeatPlace(), 1);
+        Check.due("repeatCount()", Check.heard("banana").repeatCount(), 2);
+        Check.due("kindsOf(2)", Check.heard("banana").kindsOf(2), 3);
+        Check.due("repeatedOf(2)", Check.heard("banana").repeatedOf(2), 2);
+        Check.due("mockedAtEnd()", Check.heard("banana").mockedAtEnd(), 3);
+        Check.due("bestLetter()", Check.heard("banana").bestLetter(), 14);
+        Check.dueMean("meanShared()", Check.heard("banana").meanShared(), 1.0);
+        Check.due("digest()", Check.heard("banana").digest(), Check.heard("banana").digest());
+        // Sorted: a, ana, anana, banana, na, nana.
+        dueSteps("ana", "banana", 3);
+    }
+
+    /** The same answers as of one that has heard nothing but these letters. */
+    private static void dueAsFresh(String when, ParrotSquawks parrot, String letters) {
+        ParrotSquawks fresh = Check.heard(letters);
+        Check.due(when + "kinds()", parrot.kinds(), fresh.kinds());
+        Check.due(when + "longestRepeat()", parrot.longestRepeat(), fresh.longestRepeat());
+        Check.dueMean(when + "meanShared()", parrot.meanShared(), fresh.meanShared());
+        Check.due(when + "digest()", parrot.digest(), fresh.digest());
+    }
+
+    private static void whatIsHeardAndForgottenSinceThen() {
+        Check.sentence("The squawks are those of the letters that it remembers now");
+        String letters = "bananas" + "a".repeat(40);
+        ParrotSquawks growing = new ParrotSquawks();
+        for (int i = 0; i < letters.length(); i++) {
+            growing.hear(letters.charAt(i) - 96);
+            String now = letters.substring(Math.max(0, i - 39), i + 1);
+            dueAsFresh("growing to " + now + ": ", growing, now);
+        }
+        ParrotSquawks shrinking = Check.heard("aaabcaabbaab");
+        for (int gone = 1; gone <= 12; gone++) {
+            shrinking.forget(1);
+            dueAsFresh("without the first " + gone + ": ", shrinking,
+                    "aaabcaabbaab".substring(gone));
+        }
+        ParrotSquawks echoing = Check.heard("ab");
+        dueAsFresh("ahead of echo: ", echoing, "ab");
+        echoing.echo(2);
+        dueAsFresh("behind echo: ", echoing, "abab");
+        ParrotSquawks emptied = Check.heard("abab");
+        dueAsFresh("ahead of teach: ", emptied, "abab");
+        emptied.teach();
+        dueAsFresh("behind teach: ", emptied, "");
     }
 
     private static void squawksToTheEnd() {
@@ -351,6 +409,18 @@ public final class BoundarySquawksTest {
         ParrotSquawks parrot = Check.taught("insult q; insult " + insult + ";");
         Check.hear(parrot, letters);
         Check.due("steps to " + insult + " in " + letters, parrot.stepsTo(1), want);
+        dueStepsBehindForgetting(insult, letters, want);
+    }
+
+    /** What was forgotten is no part of a squawk, and stands behind none. */
+    private static void dueStepsBehindForgetting(String insult, String letters, int want) {
+        ParrotSquawks parrot = Check.taught("insult q; insult " + insult + ";");
+        for (int more = 1; more <= 40 - letters.length() && more <= 3; more++) {
+            Check.hear(parrot, "zzz".substring(0, more) + letters);
+            parrot.forget(parrot.length() - letters.length());
+            Check.due("steps to " + insult + " in " + letters + ", all else forgotten",
+                    parrot.stepsTo(1), want);
+        }
     }
 
     private static void halvingWithoutLetters() {
@@ -401,6 +471,12 @@ public final class BoundarySquawksTest {
         dueSteps("ca", "cb", 2);
         dueSteps("caz", "cb", 2);
         dueSteps("cc", "cb", 1);
+        // Of 40 squawks, with one that is at its end where the letters of the insult go on.
+        dueSteps("zzzzzzzzzz", "z".repeat(9), 3);
+        dueSteps("zzzzzzzzzz", "a".repeat(39) + "z", 5);
+        dueSteps("zz", "a".repeat(39) + "z", 5);
+        dueSteps("z", "a".repeat(39) + "z", 5);
+        dueSteps("aaaaaaaaaa", "a".repeat(40), 5);
     }
 
     private static void dueMostSaid(String plan, String letters, int want) {

@@ -167,6 +167,7 @@ public final class BoundaryTapeTest {
             Check.due("insults()", parrot.insults(), 1);
         }
         Check.sentence("trim shortens the tape to its first bytes");
+        trimmedToEach();
         // What is left of the keyword is a name up to five bytes.
         int[] errorsAt = {-1, 0, 0, 0, 0, 0, 6, 7, 8, -1, -1, 10};
         for (int n = 0; n < errorsAt.length; n++) {
@@ -176,6 +177,22 @@ public final class BoundaryTapeTest {
             Check.due("teach() of " + n + " bytes", parrot.teach(), errorsAt[n] < 0 ? 0 : 1);
             Check.due("errorAt() of " + n + " bytes", parrot.errorAt(), errorsAt[n]);
         }
+    }
+
+    /** Bytes that were trimmed off are not there, even if they would make a token longer. */
+    private static void trimmedToEach() {
+        String plan = "insult ab;echo 12+count of ab when 34<=56 and 78>=9 or[knows ab];hear cd;";
+        for (int n = 0; n <= plan.length(); n++) {
+            ParrotSquawks trimmed = new ParrotSquawks();
+            Check.feed(trimmed, plan);
+            Check.due("trim(" + n + ")", trimmed.trim(n), n);
+            ParrotSquawks fresh = new ParrotSquawks();
+            Check.due("teach() of " + n + " bytes", trimmed.teach(),
+                    Check.teach(fresh, plan.substring(0, n)));
+            Check.due("errorAt() of " + n + " bytes", trimmed.errorAt(), fresh.errorAt());
+        }
+        int less = plan.indexOf("<=") + 1;
+        Check.dueError(plan.substring(0, less), 1, less);
     }
 
     private static void positionsAreCountedFrom0() {

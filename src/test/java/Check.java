@@ -112,7 +112,8 @@ final class Check {
 
     static void dueLetters(String when, ParrotSquawks parrot, String want) {
         StringBuilder got = new StringBuilder();
-        for (int place = 0; place < parrot.length(); place++) {
+        int there = parrot.length();
+        for (int place = 0; place < there; place++) {
             got.append((char) ('a' + parrot.letterAt(place) - 1));
         }
         if (!got.toString().equals(want)) {

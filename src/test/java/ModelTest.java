@@ -3,9 +3,11 @@ import java.util.Random;
 /** Long runs by chance (always the same ones): every answer must be that of the model. */
 public final class ModelTest {
 
-    private static final int RUNS = 250;
+    private static final int RUNS = 1500;
     private static final int PLANS = 20000;
-    private static final int CALLS = 90;
+    // 512 calls are promised: a step takes at most 125, and the last questions some 255.
+    private static final int MOST_CALLS_OF_STEPS = 130;
+    private static final int MOST_STEPS = 100;
 
     private final Random random;
     private final PlanWriter writer;
@@ -13,6 +15,7 @@ public final class ModelTest {
     private final Model model = new Model();
     private String run;
     private int errorAt = -1;
+    private int calls;
 
     private ModelTest(int seed) {
         random = new Random(seed);
@@ -33,6 +36,8 @@ public final class ModelTest {
         int[] found = new int[6];
         ParrotSquawks parrot = new ParrotSquawks();
         for (int i = 0; i < PLANS; i++) {
+            // Four plans of 2000 bytes are some 420 calls, and 512 are promised.
+            parrot = i % 4 == 0 ? new ParrotSquawks() : parrot;
             String text = writer.write();
             ModelLanguage language = new ModelLanguage(text);
             Check.due("plan " + i + ", teach()", Check.teach(parrot, text), language.error);
@@ -46,21 +51,33 @@ public final class ModelTest {
 
     private void play() {
         teach();
-        for (int i = 0; i < CALLS; i++) {
+        for (int i = 0; i < MOST_STEPS && calls < MOST_CALLS_OF_STEPS; i++) {
             act();
             ask();
         }
-        askAll();
+        askAtLast();
     }
 
     private void due(String call, long got, long want) {
+        calls++;
         Check.due(run + ": " + call, got, want);
+    }
+
+    private void dueNoArgument(String call, Check.Call refused) {
+        calls++;
+        Check.dueNoArgument(run + ": " + call, refused);
+    }
+
+    private void dueNoPlace(String call, Check.Call refused) {
+        calls++;
+        Check.dueNoPlace(run + ": " + call, refused);
     }
 
     private void teach() {
         String text = writer.write();
         ModelLanguage language = new ModelLanguage(text);
         Check.feed(parrot, text);
+        calls += text.length() / 20 + 2;
         due("teach()", parrot.teach(), language.error);
         errorAt = language.errorAt;
         if (language.error == 0) {
@@ -89,7 +106,7 @@ public final class ModelTest {
             case 17, 18, 19:
                 int again = random.nextInt(12);
                 if (again < 1 || again > length) {
-                    Check.dueNoArgument(run + ": echo(" + again + ")", () -> parrot.echo(again));
+                    dueNoArgument("echo(" + again + ")", () -> parrot.echo(again));
                 } else {
                     model.echo(again);
                     due("echo(" + again + ")", parrot.echo(again), model.letters.length());
@@ -98,7 +115,7 @@ public final class ModelTest {
             case 20, 21:
                 int gone = random.nextInt(random.nextInt(4) == 0 ? 42 : 8);
                 if (gone < 1 || gone > length) {
-                    Check.dueNoArgument(run + ": forget(" + gone + ")", () -> parrot.forget(gone));
+                    dueNoArgument("forget(" + gone + ")", () -> parrot.forget(gone));
                 } else {
                     model.forget(gone);
                     due("forget(" + gone + ")", parrot.forget(gone), model.letters.length());
@@ -111,7 +128,7 @@ public final class ModelTest {
 
     private void mock(int insult) {
         if (insult >= model.insults.size()) {
-            Check.dueNoPlace(run + ": mock(" + insult + ")", () -> parrot.mock(insult));
+            dueNoPlace("mock(" + insult + ")", () -> parrot.mock(insult));
         } else {
             model.hear(model.insults.get(insult));
             due("mock(" + insult + ")", parrot.mock(insult), model.letters.length());
@@ -119,24 +136,36 @@ public final class ModelTest {
     }
 
     private void ask() {
-        switch (random.nextInt(8)) {
+        switch (random.nextInt(16)) {
             case 0 -> askWhole();
-            case 1 -> askPlaces();
-            case 2 -> askPhrases();
-            case 3 -> askInsults();
-            case 4 -> askWhatWouldBe();
-            case 5 -> due("digest()", parrot.digest(), model.digest());
-            default -> due("longestRepeat()", parrot.longestRepeat(), model.repeat().length());
+            case 1 -> askPlace();
+            case 2 -> askRepeat();
+            case 3 -> askPhrases(1 + random.nextInt(40));
+            case 4 -> askInsult();
+            case 5 -> askWhatWouldBe();
+            case 6 -> due("digest()", parrot.digest(), model.digest());
+            case 7 -> due("kinds()", parrot.kinds(), model.kinds());
+            case 8 -> due("mostSaid()", parrot.mostSaid(), model.mostSaid());
+            default -> { }
         }
     }
 
-    private void askAll() {
+    private void askAtLast() {
         askWhole();
-        askPlaces();
-        askPhrases();
-        askInsults();
-        askWhatWouldBe();
+        askRepeat();
+        due("mostSaid()", parrot.mostSaid(), model.mostSaid());
         due("digest()", parrot.digest(), model.digest());
+        if (random.nextBoolean()) {
+            askAllPlaces();
+            return;
+        }
+        for (int letters = 1; letters <= 40; letters++) {
+            askPhrases(letters);
+        }
+        for (int insult = 0; insult < model.insults.size(); insult++) {
+            askInsult(insult);
+        }
+        askWhatWouldBe();
     }
 
     private void askWhole() {
@@ -146,51 +175,65 @@ public final class ModelTest {
         due("day()", parrot.day(), model.day);
         due("ordersCarriedOut()", parrot.ordersCarriedOut(), model.carriedOut);
         due("kinds()", parrot.kinds(), model.kinds());
+        calls++;
         Check.dueMean(run + ": meanShared()", parrot.meanShared(), model.meanShared());
     }
 
-    private void askPlaces() {
+    private void askAllPlaces() {
         for (int place = 0; place < model.letters.length(); place++) {
-            due("letterAt(" + place + ")", parrot.letterAt(place),
-                    model.letters.charAt(place) - 'a' + 1);
-            due("rankOf(" + place + ")", parrot.rankOf(place), model.rankOf(place));
-            due("placeAt(" + place + ")", parrot.placeAt(place), model.placeAt(place));
-            due("sharedAt(" + place + ")", parrot.sharedAt(place), model.sharedAt(place));
-            int other = random.nextInt(model.letters.length());
-            due("shared(" + place + ", " + other + ")", parrot.shared(place, other),
-                    model.shared(place, other));
-            Check.due(run + ": isAhead(" + place + ", " + other + ")",
-                    parrot.isAhead(place, other),
-                    model.squawk(place).compareTo(model.squawk(other)) < 0);
+            askPlace(place);
         }
         int behind = model.letters.length();
-        Check.dueNoPlace(run + ": letterAt(" + behind + ")", () -> parrot.letterAt(behind));
-        Check.dueNoPlace(run + ": placeAt(" + behind + ")", () -> parrot.placeAt(behind));
+        dueNoPlace("letterAt(" + behind + ")", () -> parrot.letterAt(behind));
+        dueNoPlace("placeAt(" + behind + ")", () -> parrot.placeAt(behind));
     }
 
-    private void askPhrases() {
+    private void askPlace() {
+        if (!model.letters.isEmpty()) {
+            askPlace(random.nextInt(model.letters.length()));
+        }
+    }
+
+    private void askPlace(int place) {
+        due("letterAt(" + place + ")", parrot.letterAt(place),
+                model.letters.charAt(place) - 'a' + 1);
+        due("rankOf(" + place + ")", parrot.rankOf(place), model.rankOf(place));
+        due("placeAt(" + place + ")", parrot.placeAt(place), model.placeAt(place));
+        due("sharedAt(" + place + ")", parrot.sharedAt(place), model.sharedAt(place));
+        int other = random.nextInt(model.letters.length());
+        due("shared(" + place + ", " + other + ")", parrot.shared(place, other),
+                model.shared(place, other));
+        boolean ahead = model.squawk(place).compareTo(model.squawk(other)) < 0;
+        due("isAhead(" + place + ", " + other + ")", parrot.isAhead(place, other) ? 1 : 0,
+                ahead ? 1 : 0);
+    }
+
+    private void askRepeat() {
         due("longestRepeat()", parrot.longestRepeat(), model.repeat().length());
         due("repeatPlace()", parrot.repeatPlace(), model.repeatPlace());
         due("repeatCount()", parrot.repeatCount(), model.repeatCount());
         due("mockedAtEnd()", parrot.mockedAtEnd(), model.mockedAtEnd());
-        for (int letters = 1; letters <= 40; letters++) {
-            due("kindsOf(" + letters + ")", parrot.kindsOf(letters),
-                    model.phrases(letters).size());
-            due("repeatedOf(" + letters + ")", parrot.repeatedOf(letters),
-                    model.repeatedOf(letters));
+    }
+
+    private void askPhrases(int letters) {
+        due("kindsOf(" + letters + ")", parrot.kindsOf(letters), model.phrases(letters).size());
+        due("repeatedOf(" + letters + ")", parrot.repeatedOf(letters),
+                model.repeatedOf(letters));
+    }
+
+    private void askInsult() {
+        if (!model.insults.isEmpty()) {
+            askInsult(random.nextInt(model.insults.size()));
         }
     }
 
-    private void askInsults() {
-        due("mostSaid()", parrot.mostSaid(), model.mostSaid());
-        for (int insult = 0; insult < model.insults.size(); insult++) {
-            String word = model.insults.get(insult);
-            due("lettersOf(" + insult + ")", parrot.lettersOf(insult), word.length());
-            due("countOf(" + insult + ")", parrot.countOf(insult), model.count(word));
-            due("firstOf(" + insult + ")", parrot.firstOf(insult), model.letters.indexOf(word));
-            due("lastOf(" + insult + ")", parrot.lastOf(insult), model.letters.lastIndexOf(word));
-            due("stepsTo(" + insult + ")", parrot.stepsTo(insult), model.steps(word));
-        }
+    private void askInsult(int insult) {
+        String word = model.insults.get(insult);
+        due("lettersOf(" + insult + ")", parrot.lettersOf(insult), word.length());
+        due("countOf(" + insult + ")", parrot.countOf(insult), model.count(word));
+        due("firstOf(" + insult + ")", parrot.firstOf(insult), model.letters.indexOf(word));
+        due("lastOf(" + insult + ")", parrot.lastOf(insult), model.letters.lastIndexOf(word));
+        due("stepsTo(" + insult + ")", parrot.stepsTo(insult), model.steps(word));
     }
 
     private void askWhatWouldBe() {
@@ -202,6 +245,6 @@ public final class ModelTest {
             due("daysUntilKnown(" + insult + ")", parrot.daysUntilKnown(insult),
                     model.daysUntilKnown(insult));
         }
-        Check.dueLetters(run + ": behind what would be,", parrot, model.letters);
+        due("digest() behind what would be", parrot.digest(), model.digest());
     }
 }
