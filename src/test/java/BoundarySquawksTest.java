@@ -496,7 +496,11 @@ public final class BoundarySquawksTest {
         dueMostSaid("insult a;", "a", 0);
         dueMostSaid("insult a; insult b;", "", 0);
         dueMostSaid("insult a; insult b;", "b", 1);
+        dueMostSaid("insult a; insult b;", "a", 0);
         dueMostSaid("insult a; insult b;", "ab", 0);
+        dueMostSaid("insult a; insult b;", "aab", 0);
+        dueMostSaid("insult a; insult b;", "abb", 1);
+        dueMostSaid("insult a; insult b; insult c;", "abb", 1);
         dueMostSaid("insult a; insult b;", "bba", 1);
         dueMostSaid("insult a; insult b; insult c;", "bc", 1);
         String eight = "insult a;insult b;insult c;insult d;insult e;insult f;insult g;insult h;";
